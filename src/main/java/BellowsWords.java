@@ -33,8 +33,8 @@ public final class BellowsWords {
         now = new House();
         acts = new Acts();
         images = new House[] {new House(), new House()};
-        foreteller = new Foreteller(now);
-        asker = new Asker(now);
+        foreteller = new Foreteller();
+        asker = new Asker();
         finding = 0;
     }
 
@@ -223,14 +223,14 @@ public final class BellowsWords {
         if (!isPair(pair) || !isWithin(d, 0, FORETOLD_MOST)) {
             return BAD;
         }
-        return foreteller.behind(d).breath[pair];
+        return foreteller.behind(now, d).breath[pair];
     }
 
     public int fire(int hearth, int d) {
         if (!isHearth(hearth) || !isWithin(d, 0, FORETOLD_MOST)) {
             return BAD;
         }
-        return foreteller.behind(d).fire[hearth];
+        return foreteller.behind(now, d).fire[hearth];
     }
 
     public int lit(int d) {
@@ -240,7 +240,7 @@ public final class BellowsWords {
         if (!isWithin(d, 0, FORETOLD_MOST)) {
             return BAD;
         }
-        return foreteller.behind(d).litBits();
+        return foreteller.behind(now, d).litBits();
     }
 
     public int empty(int what) {
@@ -250,21 +250,21 @@ public final class BellowsWords {
         if (!isWithin(what, 0, 1)) {
             return BAD;
         }
-        return foreteller.firstEmpty(what);
+        return foreteller.firstEmpty(now, what);
     }
 
     public int cold(int hearth) {
         if (!isHearth(hearth)) {
             return BAD;
         }
-        return foreteller.firstCold(hearth);
+        return foreteller.firstCold(now, hearth);
     }
 
     public int best(int pair, int n, int what) {
         if (!isPair(pair) || !isWithin(n, 1, PLAN_MOST) || !isWithin(what, 0, 1)) {
             return BAD;
         }
-        return foreteller.bestDay(pair, n, what);
+        return foreteller.bestDay(now, pair, n, what);
     }
 
     public int draw(int n, int what) {
@@ -274,7 +274,7 @@ public final class BellowsWords {
         if (!isWithin(n, 1, PLAN_MOST) || !isWithin(what, 0, 1)) {
             return BAD;
         }
-        int pairs = foreteller.fewestDrawn(n);
+        int pairs = foreteller.fewestDrawn(now, n);
         return what == 1 || pairs == NONE ? pairs : Integer.bitCount(pairs);
     }
 
@@ -285,7 +285,7 @@ public final class BellowsWords {
         if (!isWithin(n, WAIT_DAYS_LEAST, WAIT_DAYS_MOST) || k < -1) {
             return BAD;
         }
-        foreteller.weighWaits(one, other, n);
+        foreteller.weighWaits(now, one, other, n);
         return foreteller.restingWaits(k);
     }
 
@@ -299,7 +299,7 @@ public final class BellowsWords {
         if (!rows.hasPlaces(row, i, n)) {
             return found(PLACE);
         }
-        return unfound(foreteller.fitting(pair, rows.items, Rows.start(row) + i, n, what));
+        return unfound(foreteller.fitting(now, pair, rows.items, Rows.start(row) + i, n, what));
     }
 
     public int chance(int pair, int n, int c, int what) {
@@ -309,7 +309,7 @@ public final class BellowsWords {
         if (!isWithin(c, 0, TENTHS) || !isWithin(what, 0, 1)) {
             return BAD;
         }
-        int above = foreteller.keptOf(pair, n, c);
+        int above = foreteller.keptOf(now, pair, n, c);
         int below = power(TENTHS, n);
         int shared = greatestShared(above, below);
         if (shared == 0) {
@@ -325,7 +325,7 @@ public final class BellowsWords {
         if (!isWithin(n, 0, FORETOLD_MOST) || !isWithin(seed, 1, SEED_MOST) || !isWithin(what, 0, 1)) {
             return BAD;
         }
-        House then = foreteller.behindSummer(n, seed);
+        House then = foreteller.behindSummer(now, n, seed);
         return what == 0 ? then.fireInAll() : then.breathInAll();
     }
 
@@ -375,7 +375,7 @@ public final class BellowsWords {
         if (!isPair(pair) || !isWithin(what, 0, 1)) {
             return BAD;
         }
-        return asker.answer(pair, what);
+        return asker.answer(now, pair, what);
     }
 
     public int trace(int i) {
@@ -903,25 +903,23 @@ public final class BellowsWords {
         private static final int[] LEAST_SUPPOSED = {1, 0, 0, 0, 0};
         private static final int[] MOST_SUPPOSED = {5, 15, 1, 40, 40};
 
-        private final House now;
         private final House trial;
         private final int[] oneGets;
         private final int[] otherGets;
 
-        Foreteller(House house) {
-            now = house;
+        Foreteller() {
             trial = new House();
             oneGets = new int[WAITS * WAITS];
             otherGets = new int[WAITS * WAITS];
         }
 
-        House behind(int d) {
+        House behind(House now, int d) {
             trial.become(now);
             passDays(d);
             return trial;
         }
 
-        int firstEmpty(int what) {
+        int firstEmpty(House now, int what) {
             trial.become(now);
             for (int d = 0; d <= FORETOLD_MOST; d++) {
                 int p = trial.firstWithoutBreath();
@@ -933,7 +931,7 @@ public final class BellowsWords {
             return NONE;
         }
 
-        int firstCold(int h) {
+        int firstCold(House now, int h) {
             trial.become(now);
             for (int d = 0; d <= FORETOLD_MOST; d++) {
                 if (!trial.isLit(h)) {
@@ -944,7 +942,7 @@ public final class BellowsWords {
             return NONE;
         }
 
-        int bestDay(int p, int n, int what) {
+        int bestDay(House now, int p, int n, int what) {
             int bestWait = 0;
             int most = -1;
             for (int k = 0; k < n; k++) {
@@ -960,10 +958,10 @@ public final class BellowsWords {
         }
 
         /** The fewest PAIRS (bits), of several the least, that light all; NONE. */
-        int fewestDrawn(int n) {
+        int fewestDrawn(House now, int n) {
             for (int size = 0; size <= now.pairs; size++) {
                 for (int set = 0; set < 1 << now.pairs; set++) {
-                    if (Integer.bitCount(set) == size && lightsAll(set, n)) {
+                    if (Integer.bitCount(set) == size && lightsAll(now, set, n)) {
                         return set;
                     }
                 }
@@ -972,7 +970,7 @@ public final class BellowsWords {
         }
 
         /** What each of two PAIRS gets by all their waits. */
-        void weighWaits(int one, int other, int n) {
+        void weighWaits(House now, int one, int other, int n) {
             for (int i = 0; i < WAITS; i++) {
                 for (int j = 0; j < WAITS; j++) {
                     trial.become(now);
@@ -1001,7 +999,7 @@ public final class BellowsWords {
         }
 
         /** What of the things supposed is so by n numbers of told: a set, how many, the least. */
-        int fitting(int p, int[] told, int from, int n, int what) {
+        int fitting(House now, int p, int[] told, int from, int n, int what) {
             int set = 0;
             int many = 0;
             int least = NONE;
@@ -1022,10 +1020,10 @@ public final class BellowsWords {
         }
 
         /** By how many of 10 to the n-th the PAIR has BREATH behind n DAYS. */
-        int keptOf(int p, int n, int c) {
+        int keptOf(House now, int p, int n, int c) {
             int sum = 0;
             for (int warmDays = 0; warmDays < 1 << n; warmDays++) {
-                if (isKept(p, n, warmDays)) {
+                if (isKept(now, p, n, warmDays)) {
                     int warm = Integer.bitCount(warmDays);
                     sum += power(c, warm) * power(TENTHS - c, n - warm);
                 }
@@ -1033,7 +1031,7 @@ public final class BellowsWords {
             return sum;
         }
 
-        House behindSummer(int n, int seed) {
+        House behindSummer(House now, int n, int seed) {
             trial.become(now);
             long x = seed;
             for (int d = 0; d < n; d++) {
@@ -1069,7 +1067,7 @@ public final class BellowsWords {
             }
         }
 
-        private boolean lightsAll(int set, int n) {
+        private boolean lightsAll(House now, int set, int n) {
             trial.become(now);
             for (int p = 0; p < trial.pairs; p++) {
                 if ((set >> p & 1) == 1) {
@@ -1109,7 +1107,7 @@ public final class BellowsWords {
             return true;
         }
 
-        private boolean isKept(int p, int n, int warmDays) {
+        private boolean isKept(House now, int p, int n, int warmDays) {
             trial.become(now);
             for (int d = 0; d < n; d++) {
                 trial.warm = (warmDays >> d & 1) == 1 ? ALWAYS_WARM : NEVER_WARM;
@@ -1127,49 +1125,37 @@ public final class BellowsWords {
         private static final int[] SIZE_BODY = {10, 11, 12, 11, 13, 14};
         private static final int[] MARK_BODY = {20, 21, 24, 22, 23, 23};
 
-        private final House now;
         final int[] numbers;
         int traced;
-        private int asked;
 
-        Asker(House house) {
-            now = house;
+        Asker() {
             numbers = new int[TRACE_MOST];
             traced = 0;
-            asked = 0;
         }
 
-        int answer(int p, int what) {
+        int answer(House now, int p, int what) {
             traced = 0;
-            asked = p;
-            return give(what == 0 ? sizeBody() : markBody(), 0);
+            int kind = now.kinds[p];
+            return give(what == 0 ? SIZE_BODY[kind] : MARK_BODY[kind], now, p, 0);
         }
 
-        private int sizeBody() {
-            return SIZE_BODY[now.kinds[asked]];
-        }
-
-        private int markBody() {
-            return MARK_BODY[now.kinds[asked]];
-        }
-
-        private int give(int body, int depth) {
+        private int give(int body, House now, int p, int depth) {
             if (depth > DEEPEST) {
                 return 0;
             }
             leave(body);
             int deeper = depth + 1;
             switch (body) {
-                case 10: return now.breath[asked];
-                case 11: return give(10, deeper) + give(markBody(), deeper);
-                case 12: return -give(11, deeper);
-                case 13: return give(10, deeper) - 100;
-                case 14: return 2 * give(13, deeper);
-                case 20: return asked;
-                case 21: return give(20, deeper) + now.place[asked];
-                case 22: return give(21, deeper) - 1000;
-                case 23: return give(20, deeper) - give(sizeBody(), deeper);
-                case 24: return 2 * give(21, deeper);
+                case 10: return now.breath[p];
+                case 11: return give(10, now, p, deeper) + give(MARK_BODY[now.kinds[p]], now, p, deeper);
+                case 12: return -give(11, now, p, deeper);
+                case 13: return give(10, now, p, deeper) - 100;
+                case 14: return 2 * give(13, now, p, deeper);
+                case 20: return p;
+                case 21: return give(20, now, p, deeper) + now.place[p];
+                case 22: return give(21, now, p, deeper) - 1000;
+                case 23: return give(20, now, p, deeper) - give(SIZE_BODY[now.kinds[p]], now, p, deeper);
+                case 24: return 2 * give(21, now, p, deeper);
                 default: return 0;
             }
         }

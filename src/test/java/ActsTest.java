@@ -97,6 +97,9 @@ public final class ActsTest {
         check.due("it burns down at once", x.days(1), 1 + 8);
         BellowsWords right = Check.housed("h0,9;f0;f10;");
         check.due("from the right", right.days(1), 3);
+        BellowsWords eight = Check.housed("h0,9;f0;f0;f0;f0;f0;f0;f0;f10;t9,7,0;");
+        check.due("the last of eight", eight.days(1), 128 + 64);
+        check.due("BLOWN into the last of eight", eight.hearth(7, 3), 4);
         BellowsWords catching = Check.housed("h0,4;f0;f20;t3,0,0;");
         catching.days(1);
         check.due("less than TAKES is lost, but it catches", catching.hearth(0, 0), 1);

@@ -127,6 +127,7 @@ public final class ForetoldTest {
         dueDraw("h0,4;f5;f5;", 5, NONE, NONE);
         // Two that are enough come ahead of three with less bits.
         dueDraw("h0,8;f0;f9;t2,0,1;t2,0,1;t4,0,1;t4,0,1;", 1, 2, 4 + 8);
+        dueDraw("h0,9;f9;f0;t3,1,1;t3,1,1;t3,1,1;t3,1,1;t3,1,1;t3,1,1;t4,1,1;", 1, 3, 1 + 2 + 4);
         BellowsWords x = Check.housed(all);
         check.due("draw(0, 0)", x.draw(0, 0), BAD);
         check.due("draw(31, 0)", x.draw(31, 0), BAD);
@@ -148,6 +149,9 @@ public final class ForetoldTest {
         check.due("the last", all.rests(0, 1, 20, 24), 44);
         check.due("one more", all.rests(0, 1, 20, 25), NONE);
         check.due("many more", all.rests(0, 1, 20, Integer.MAX_VALUE), NONE);
+        BellowsWords atOnce = Check.housed("h0,1;f0;f0;t20,0,1;t20,1,1;");
+        check.due("both at once", atOnce.rests(0, 1, 5, -1), 1);
+        check.due("both at once", atOnce.rests(0, 1, 5, 0), 0);
         // Each is too little by itself: they rest where they blow together, or miss for good.
         BellowsWords both = Check.housed("h0,8;f0;f0;t4,0,1;t4,0,1;");
         check.due("together", both.rests(0, 1, 5, -1), 5);
@@ -206,6 +210,12 @@ public final class ForetoldTest {
         check.due("twelve", x.fits(0, 0, 0, 12, 3), 0);
         x.weather(0);
         check.due("twelve", x.fits(0, 0, 0, 12, 4), 3);
+        told(x, 20, 41, 9);
+        check.due("WARMS, no DAY among them", x.fits(0, 0, 0, 1, 1), 0x5555);
+        check.due("HADS beyond what a PAIR has", x.fits(0, 0, 1, 1, 3), 0);
+        check.due("the least", x.fits(0, 0, 1, 1, 4), NONE);
+        x.peg(2, 1);
+        check.due("WARMS of tin", x.fits(2, 0, 2, 1, 1), 65535);
     }
 
     private static void refusesFits() {

@@ -10,6 +10,7 @@ public final class TextTest {
         tellsFaults();
         leavesTheHouseAfterAFault();
         takesTheNextHouse();
+        readsNothingOfWhatStoodBefore();
         check.end();
     }
 
@@ -141,5 +142,16 @@ public final class TextTest {
         Check.read(x, "h16");
         Check.read(x, "h2,4;f1;f0;f3;");
         check.due("fault() is the latest, though one was read since", x.fault(), 2);
+    }
+
+    private static void readsNothingOfWhatStoodBefore() {
+        BellowsWords x = Check.housed("h1,1;f1;f2;f20;t9,2,0;");
+        check.due("the tape before was longer", Check.read(x, "h1,1;f1;f2"), -1000110);
+        check.due("two hearths", Check.read(x, "h1,1;f0;f0;"), 2);
+        check.due("the third of before burns no more", x.days(1), 0);
+        String most = "h15,9;f20;f20;f20;f20;f20;f20;f20;f20;l40,00,01;l40,00,01;l40,00,01;l40,0,1;l40,0,1;l40,0,1;";
+        check.due("100 bytes", Check.read(x, most + "l40,0,1;"), 8);
+        check.due("PAIRS of them", x.count(2), 7);
+        check.due("100 bytes, and an end too soon", Check.read(x, most + "l40,0,01"), -1000200);
     }
 }
