@@ -16,12 +16,15 @@ public final class LanguageTest {
         "\\bvar\\b", "\\bstatic *\\{", "\\[\\] *\\[\\]", "\" *\\+", "\\+ *\"");
     private static final Pattern METHOD = Pattern.compile(
         "^( {4}| {8})((?:public |private |static |final )*)(?:[\\w\\[\\]]+ )?(\\w+)\\(([^)]*)\\) \\{$");
+    private static final Pattern LIBRARY_CALL = Pattern.compile("\\b([A-Z]\\w*\\.\\w+)\\(");
     private static int wrong = 0;
 
     public static void main(String[] args) throws IOException {
         List<String> lines = Files.readAllLines(Path.of("src/main/java/BellowsWords.java"));
         bansWords(lines);
         keepsMethodsSmall(lines);
+        keepsClassesSmall(lines);
+        keepsToTheLibrary(lines);
         System.out.println(wrong + " breaches of the language");
         if (wrong != 0) System.exit(1);
     }
@@ -38,6 +41,50 @@ public final class LanguageTest {
                 if (Pattern.compile(word).matcher(code).find()) breach(i, word + " in " + code.trim());
             }
             if (!lines.get(i).chars().allMatch(c -> c < 128)) breach(i, "a sign above 127");
+        }
+    }
+
+    /** Some twelve classes, some twenty fields in each; no static field that is not final. */
+    private static void keepsClassesSmall(List<String> lines) {
+        int classes = 0;
+        int fields = 0;
+        for (int i = 0; i < lines.size(); i++) {
+            String line = lines.get(i);
+            if (line.matches(".*\\bclass \\w+ \\{")) {
+                classes++;
+                fields = 0;
+                if (classes > 1 && !line.startsWith("    private static final class ")) breach(i, "a class that is open");
+            }
+            boolean isField = line.matches("( {4}| {8})(?!return )[\\w\\[\\] ]+ \\w+(, \\w+)*( = .*)?;");
+            boolean isConstant = line.contains("static final ");
+            if (isField && !isConstant && isMember(lines, i)) fields++;
+            if (fields > 20) breach(i, "a class of more than twenty fields");
+            if (line.contains("static ") && line.endsWith(";") && !isConstant) breach(i, "static state");
+        }
+        if (classes < 2 || classes > 12) breach(0, classes + " classes");
+    }
+
+    /** Whether a line stands in a class itself, not in a method: four more than the class. */
+    private static boolean isMember(List<String> lines, int i) {
+        for (int back = i; back >= 0; back--) {
+            String line = lines.get(back);
+            if (line.matches(".*\\bclass \\w+ \\{")) return indent(lines.get(i)) == indent(line) + 4;
+        }
+        return false;
+    }
+
+    private static int indent(String line) {
+        return line.length() - line.stripLeading().length();
+    }
+
+    private static void keepsToTheLibrary(List<String> lines) {
+        Set<String> allowed = Set.of("Math.min", "Math.max", "Integer.bitCount", "System.arraycopy", "Rows.start");
+        for (int i = 0; i < lines.size(); i++) {
+            String code = lines.get(i).replaceAll("^ *(/\\*\\*|\\*|//).*", "");
+            Matcher call = LIBRARY_CALL.matcher(code);
+            while (call.find()) {
+                if (!allowed.contains(call.group(1))) breach(i, call.group(1) + " is not listed");
+            }
         }
     }
 
